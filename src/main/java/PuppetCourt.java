@@ -237,7 +237,8 @@ public final class PuppetCourt {
         if (v < 1 || v > 2 || what < 0 || what > 1) {
             return NONE;
         }
-        int pulls = play.toVerdict(now, v);
+        play.aimAt(Play.TO_VERDICT, v, NONE);
+        int pulls = play.fewest(now);
         return what == 0 || pulls == NOT ? pulls : play.firstString;
     }
 
@@ -251,7 +252,8 @@ public final class PuppetCourt {
 
     /** Promise 17. */
     public int straight() {
-        return play.toNoTangles(now);
+        play.aimAt(Play.TO_NO_TANGLES, 0, NONE);
+        return play.fewest(now);
     }
 
     /** Promise 18. */
@@ -259,7 +261,8 @@ public final class PuppetCourt {
         if (!script.hasPuppet(puppet) || x < 0 || x > LAST_X) {
             return NONE;
         }
-        return play.toPlace(now, puppet, x);
+        play.aimAt(Play.TO_PLACE, x, puppet);
+        return play.fewest(now);
     }
 
     /** Promise 19. */
@@ -547,6 +550,9 @@ public final class PuppetCourt {
             "puppet string child order verdict votes storm seed if then else apart tangles pulls nods side hand seat which at ";
         private static final int WORD_COUNT = 20;
         private static final int MOST_LETTERS = 8;
+        /** A name of eight letters fits into a long so, and no two are alike. */
+        private static final int LETTER_BITS = 5;
+        private static final int BEFORE_A = 'a' - 1;
         private static final int MOST_DIGITS = 4;
         static final int PUPPET = 0;
         static final int STRING = 1;
@@ -587,14 +593,9 @@ public final class PuppetCourt {
                     word++;
                     code = 0;
                 } else {
-                    code = withLetter(code, c);
+                    code = (code << LETTER_BITS) + (c - BEFORE_A);
                 }
             }
-        }
-
-        /** Five bits a letter: a name of eight letters fits into a long, and no two are alike. */
-        private static long withLetter(long code, int letter) {
-            return (code << 5) + (letter - 'a' + 1);
         }
 
         void start(byte[] bytes, int count) {
@@ -611,9 +612,9 @@ public final class PuppetCourt {
             place = next;
             if (next >= length) {
                 kind = END;
-            } else if (isLetter(text[next])) {
+            } else if (text[next] >= 'a' && text[next] <= 'z') {
                 letters();
-            } else if (isDigit(text[next])) {
+            } else if (text[next] >= '0' && text[next] <= '9') {
                 digits();
             } else {
                 int sign = text[next] & 255;
@@ -622,10 +623,14 @@ public final class PuppetCourt {
             }
         }
 
+        private static boolean isBlank(int c) {
+            return c == 9 || c == 10 || c == 13 || c == 32;
+        }
+
         private void letters() {
             name = 0;
-            while (next < length && isLetter(text[next])) {
-                name = withLetter(name, text[next]);
+            while (next < length && text[next] >= 'a' && text[next] <= 'z') {
+                name = (name << LETTER_BITS) + (text[next] - BEFORE_A);
                 next++;
             }
             kind = next - place > MOST_LETTERS ? BAD : NAME;
@@ -638,23 +643,11 @@ public final class PuppetCourt {
 
         private void digits() {
             number = 0;
-            while (next < length && isDigit(text[next])) {
+            while (next < length && text[next] >= '0' && text[next] <= '9') {
                 number = 10 * number + (text[next] - '0');
                 next++;
             }
             kind = next - place > MOST_DIGITS ? BAD : INT;
-        }
-
-        private static boolean isBlank(int c) {
-            return c == 9 || c == 10 || c == 13 || c == 32;
-        }
-
-        private static boolean isLetter(int c) {
-            return c >= 'a' && c <= 'z';
-        }
-
-        private static boolean isDigit(int c) {
-            return c >= '0' && c <= '9';
         }
     }
 
@@ -945,7 +938,34 @@ public final class PuppetCourt {
             tokens.start(text, length);
             boolean goesOn = true;
             for (int tells = 0; tells <= MOST_TOKENS && goesOn && tokens.kind != Tokens.END; tells++) {
-                goesOn = sentence();
+                switch (tokens.kind) {
+                    case Tokens.PUPPET:
+                        goesOn = puppetTold();
+                        break;
+                    case Tokens.STRING:
+                        goesOn = stringTold();
+                        break;
+                    case Tokens.CHILD:
+                        goesOn = childTold();
+                        break;
+                    case Tokens.ORDER:
+                        goesOn = lawTold(Script.ORDER);
+                        break;
+                    case Tokens.VERDICT:
+                        goesOn = lawTold(Script.VERDICT);
+                        break;
+                    case Tokens.VOTES:
+                        goesOn = lawTold(Script.VOTES);
+                        break;
+                    case Tokens.STORM:
+                        goesOn = stormTold();
+                        break;
+                    case Tokens.SEED:
+                        goesOn = seedTold();
+                        break;
+                    default:
+                        goesOn = fail(SYNTAX);
+                }
             }
             return fault;
         }
@@ -1029,29 +1049,6 @@ public final class PuppetCourt {
             return NONE;
         }
 
-        private boolean sentence() {
-            switch (tokens.kind) {
-                case Tokens.PUPPET:
-                    return puppetTold();
-                case Tokens.STRING:
-                    return stringTold();
-                case Tokens.CHILD:
-                    return childTold();
-                case Tokens.ORDER:
-                    return lawTold(Script.ORDER);
-                case Tokens.VERDICT:
-                    return lawTold(Script.VERDICT);
-                case Tokens.VOTES:
-                    return lawTold(Script.VOTES);
-                case Tokens.STORM:
-                    return stormTold();
-                case Tokens.SEED:
-                    return seedTold();
-                default:
-                    return fail(SYNTAX);
-            }
-        }
-
         private boolean puppetTold() {
             int puppet = draft.puppets;
             if (puppet >= MOST_PUPPETS) {
@@ -1131,34 +1128,28 @@ public final class PuppetCourt {
             if (!step() || !take('=')) {
                 return false;
             }
-            draft.book.startLaw(law);
+            Book book = draft.book;
+            book.startLaw(law);
             for (int ifs = 0; ifs <= MOST_IFS && tokens.kind == Tokens.IF; ifs++) {
                 if (ifs == MOST_IFS) {
                     return fail(ROOM);
                 }
-                if (!branch()) {
+                if (!step() || !sum(0) || !take('<') || !sum(0)) {
                     return false;
                 }
+                int fork = book.size;
+                book.addStep(Book.UNLESS_LESS, 0);
+                if (!take(Tokens.THEN) || !sum(0) || !take(Tokens.ELSE)) {
+                    return false;
+                }
+                book.addStep(Book.ANSWER, 0);
+                book.landHere(fork);
             }
             if (!sum(0)) {
                 return false;
             }
-            draft.book.addStep(Book.ANSWER, 0);
+            book.addStep(Book.ANSWER, 0);
             return take(';');
-        }
-
-        private boolean branch() {
-            if (!step() || !sum(0) || !take('<') || !sum(0)) {
-                return false;
-            }
-            int fork = draft.book.size;
-            draft.book.addStep(Book.UNLESS_LESS, 0);
-            if (!take(Tokens.THEN) || !sum(0) || !take(Tokens.ELSE)) {
-                return false;
-            }
-            draft.book.addStep(Book.ANSWER, 0);
-            draft.book.landHere(fork);
-            return true;
         }
 
         private boolean sum(int brackets) {
@@ -1461,9 +1452,9 @@ public final class PuppetCourt {
      * The poses stand in the order of the first rows that lead to them, so the first find is the first row.
      */
     private static final class Play {
-        private static final int TO_VERDICT = 0;
-        private static final int TO_NO_TANGLES = 1;
-        private static final int TO_PLACE = 2;
+        static final int TO_VERDICT = 0;
+        static final int TO_NO_TANGLES = 1;
+        static final int TO_PLACE = 2;
         /** The order of pulls is of no matter for a pose: four of seven strings lead to 210 at most. */
         private static final int MOST_POSES = 210;
 
@@ -1477,7 +1468,7 @@ public final class PuppetCourt {
         private int nextSize = 0;
         private int goal = TO_VERDICT;
         private int wanted = 0;
-        private int puppet = 0;
+        private int puppet = NONE;
         int firstString = NONE;
 
         Play(Script ofScript, Bench ofBench) {
@@ -1485,22 +1476,11 @@ public final class PuppetCourt {
             bench = ofBench;
         }
 
-        int toVerdict(Course now, int verdict) {
-            goal = TO_VERDICT;
-            wanted = verdict;
-            return fewest(now);
-        }
-
-        int toNoTangles(Course now) {
-            goal = TO_NO_TANGLES;
-            return fewest(now);
-        }
-
-        int toPlace(Course now, int ofPuppet, int x) {
-            goal = TO_PLACE;
-            puppet = ofPuppet;
-            wanted = x;
-            return fewest(now);
+        /** What to look for: a verdict, no tangles, or a puppet at an X. */
+        void aimAt(int newGoal, int newWanted, int newPuppet) {
+            goal = newGoal;
+            wanted = newWanted;
+            puppet = newPuppet;
         }
 
         private boolean isGoal(int pose, int verdict) {
@@ -1513,7 +1493,8 @@ public final class PuppetCourt {
             return goal == TO_PLACE ? Pose.xOf(pose, puppet) == wanted : script.tanglesIn(pose) == 0;
         }
 
-        private int fewest(Course now) {
+        /** The fewest pulls to the goal, NOT if none lead there; how they begin stands in 'firstString'. */
+        int fewest(Course now) {
             firstString = NONE;
             if (now.verdict != 0) {
                 return NOT;
@@ -1609,7 +1590,7 @@ public final class PuppetCourt {
 
         boolean forces(Course now, int side, int n) {
             start(now, side, n);
-            return now.verdict == 0 && wins(now.pose, 0);
+            return now.verdict == 0 && tryAll(now.pose, 0);
         }
 
         /** The first string by which whose turn it is forces its verdict; NOT if there is none. */
@@ -1617,7 +1598,7 @@ public final class PuppetCourt {
             start(now, now.side, n);
             for (int string = 0; string < script.strings && now.verdict == 0; string++) {
                 if (bench.allows(now.pose, now.pulls, now.side, string)
-                    && leadsToWin(script.moved(now.pose, string), 1)) {
+                    && isWon(script.moved(now.pose, string), 1)) {
                     return string;
                 }
             }
@@ -1632,9 +1613,27 @@ public final class PuppetCourt {
             sideAhead = now.side;
         }
 
-        private boolean wins(int pose, int made) {
-            if (made < 0 || made >= limit) {
-                return false;
+        /** Whether the side forces it, whoever's turn it is: its own pull need be good once, the other's always. */
+        private boolean tryAll(int pose, int made) {
+            int mover = (sideAhead + made) & 1;
+            boolean own = mover == forSide;
+            boolean pulled = false;
+            for (int string = 0; string < script.strings; string++) {
+                if (bench.allows(pose, pullsAhead + made, mover, string)) {
+                    pulled = true;
+                    if (isWon(script.moved(pose, string), made + 1) == own) {
+                        return own;
+                    }
+                }
+            }
+            return pulled ? !own : isWon(pose, made + 1);
+        }
+
+        /** Whether the side has its verdict in a pose behind so many pulls, or forces it from there. */
+        private boolean isWon(int pose, int made) {
+            int verdict = bench.verdictOn(pose, pullsAhead + made);
+            if (verdict != 0 || made >= limit) {
+                return verdict == forSide + 1;
             }
             int before = recalled(pose, made);
             if (before != UNKNOWN) {
@@ -1643,26 +1642,6 @@ public final class PuppetCourt {
             boolean won = tryAll(pose, made);
             note(pose, made, won);
             return won;
-        }
-
-        private boolean tryAll(int pose, int made) {
-            int mover = (sideAhead + made) & 1;
-            boolean own = mover == forSide;
-            boolean pulled = false;
-            for (int string = 0; string < script.strings; string++) {
-                if (bench.allows(pose, pullsAhead + made, mover, string)) {
-                    pulled = true;
-                    if (leadsToWin(script.moved(pose, string), made + 1) == own) {
-                        return own;
-                    }
-                }
-            }
-            return pulled ? !own : leadsToWin(pose, made + 1);
-        }
-
-        private boolean leadsToWin(int pose, int made) {
-            int verdict = bench.verdictOn(pose, pullsAhead + made);
-            return verdict == 0 ? wins(pose, made) : verdict == forSide + 1;
         }
 
         private int recalled(int pose, int made) {

@@ -62,6 +62,8 @@ public final class FaultsTest {
         good("puppet\na\t1\r2 ;");
         good("seed 9999;seed 0;storm 100;storm 0;");
         good("puppet a 1 1;string b a 0-9 3;string c a 1 9 0;string d a 2 - 0 1;");
+        good("puppet azbycxdw 1 1;string zzzzzzzz azbycxdw 0 0 0;");
+        good("order = if ((((((1)))))) < ((((((2)))))) then ((((((3)))))) else ((((((4))))));");
         good("puppet puppets 1 1;string ifs puppets 0 0 0;");
         good("order=1;order=2;verdict=(apart+tangles)*pulls-nods/side;votes=hand-seat*which+at;");
         good("order = if 1 < 2 then 3 else if 2<3 then 4 else if 3<4 then 5 else if 4<5 then 6 else 7;");
@@ -138,6 +140,7 @@ public final class FaultsTest {
         fault("order = ((((((1))))))+(((((((1", 2, 28);
         fault("order = if 1 < (((((((", 2, 21);
         tokens();
+        lastTokens();
     }
 
     /** "child 1;" is three tokens; laws of sums fill up to 400 just. */
@@ -158,6 +161,34 @@ public final class FaultsTest {
         fault(law + "+", 1, law.length() + 1);
         fault(law + "+;", 1, law.length() + 1);
         fault(law + "+12345;", 1, law.length() + 1);
+    }
+
+    /** So many tokens of good tells, at least eight. */
+    private static String filling(int tokens) {
+        StringBuilder text = new StringBuilder("puppet a 1 1;order=1");
+        int rest = tokens - 9;
+        if (rest % 2 == 1) {
+            text.insert(0, "child 1;");
+            rest -= 3;
+        }
+        return text.append("+1".repeat(rest / 2)).append(';').toString();
+    }
+
+    /** The 401st token at each place of each sort of tell, and the 400th as the last one. */
+    private static void lastTokens() {
+        String[] tells = {"puppet b 1 1 ;", "string b a 0 - 1 1 ;", "string b a 0 1 1 ;", "child 1 ;", "storm 1 ;", "seed 1 ;",
+            "order = if 1 < 2 then 3 + 4 else 5 * ( 6 ) ;", "verdict = pulls ;", "votes = seat / 2 ;"};
+        for (String tell : tells) {
+            String[] parts = tell.split(" ");
+            int at = 0;
+            for (int j = 0; j < parts.length; j++) {
+                String before = filling(400 - j);
+                fault(before + tell, 2, before.length() + at);
+                fault(before + tell.substring(0, at) + "?", 1, before.length() + at);
+                at += parts[j].length() + 1;
+            }
+            good(filling(400 - parts.length) + tell);
+        }
     }
 
     private static void meaning() {

@@ -414,6 +414,12 @@ public final class PromisesTest {
         Due.is("a verdict by passing, in 1", x.force(1, 1), 0);
         x = Due.court("verdict = pulls;");
         Due.is("no strings at all", x.force(0, 1), 1);
+        // behind a and b, in either order, side 1 has won; behind a a and b b it has not
+        x = Due.court("puppet p 0 0; string a p 2 1 0; string b p 2 2 0; string c p 2 0 0;"
+            + "order = if pulls < 2 then 2 - which else which - 1;"
+            + "verdict = if pulls < 3 then 0 else if apart < 0 - 3 then 1 else if apart < 0 - 2 then 2 else 1;");
+        Due.is("one pose in two ways", x.force(1, 3), 1);
+        Due.is("one pose in two ways, the other side", x.force(0, 3), 0);
     }
 
     private static void straightAndReach() {
@@ -575,6 +581,15 @@ public final class PromisesTest {
         Due.is("count(5)", x.count(5), 12);
         Due.is("6 times 6 clash", x.clashes(), 36);
         Due.is("cases won", x.count(11) * 100 + x.count(12), 806);
+        x = Due.court("puppet p 4 0; puppet d 4 0; string l d 2 - 1 0; string r d 2 1 0; verdict = 1;");
+        for (int i = 0; i < 13; i++) {
+            x.pull(i % 3 == 0 ? 0 : 1);
+            x.open();
+        }
+        for (int i = 0; i < 12; i++) {
+            Due.is("apart of kept " + i, x.precedent(i, 0), i % 3 == 2 ? -1 : 1);
+            Due.is("tangles of kept " + i, x.precedent(i, 1), i % 3 == 2 ? 1 : 0);
+        }
     }
 
     private static void paint() {
