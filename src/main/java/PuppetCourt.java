@@ -23,6 +23,8 @@ public final class PuppetCourt {
     private static final int PLACES = 10;
     /** How far ahead the court looks: rows of pulls are this long at most. */
     private static final int FAR = 5;
+    /** More than any sum of paint or number of rows can be. */
+    private static final int MANY = 1000000;
 
     private final byte[] tape = new byte[TAPE_BYTES];
     private int taped = 0;
@@ -886,7 +888,7 @@ public final class PuppetCourt {
 
         /** The least sum of differences of paint (part NONE), or who plays the part then. */
         int bestPainted(int part) {
-            int best = Integer.MAX_VALUE;
+            int best = MANY;
             for (int a = 0; a < puppets && a < paints.length; a++) {
                 for (int b = 0; b < puppets && b < paints.length; b++) {
                     for (int c = 0; c < puppets && c < paints.length; c++) {
@@ -1828,7 +1830,7 @@ public final class PuppetCourt {
         /** The puppet whose X leaves the fewest rows at worst; NOT if there are no puppets. */
         int tellingPuppet() {
             int best = NOT;
-            int fewest = Integer.MAX_VALUE;
+            int fewest = MANY;
             for (int puppet = 0; puppet < script.puppets && puppet < MOST_PUPPETS; puppet++) {
                 int worst = 0;
                 for (int x = 0; x < PLACES; x++) {

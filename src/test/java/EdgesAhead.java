@@ -371,6 +371,15 @@ final class EdgesAhead {
     }
 
     @Says(AS_IT_LIKES)
+    static void p16_force_standsSideBySide() {
+        PuppetCourt x = Due.court("puppet p 0 0; string a p 1 2 0; string b p 1 1 0; string c p 0 0 0;"
+            + "verdict = if pulls < 3 then 0 else if 1 < 0 - apart then 1 else 0;");
+        x.pass();
+        Due.is("the other pulls b", x.force(0, 2), 0);
+        Due.is("with his help", x.shortest(1, 0), 2);
+    }
+
+    @Says(AS_IT_LIKES)
     static void p16_force_standsThatAreTwiceOneAnother() {
         PuppetCourt x = Due.court("puppet p 0 0; string a p 0 1 0; string b p 0 2 0; string c p 1 0 0;"
             + "verdict = if pulls < 2 then 0 else if 1 < 0 - apart then 1 else 0;");

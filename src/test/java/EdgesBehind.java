@@ -559,6 +559,19 @@ final class EdgesBehind {
         }
     }
 
+    @Says("0 PUPPETS, 1 STRINGS, 2 CHILDREN, 3 cases so far, 4 pulls of all, 5 PRECEDENTS, 6 STORMS so far,")
+    static void p37_count_ofFiveHundredPulls() {
+        PuppetCourt x = Due.court("puppet p 5 0; string n p 2 0 1;");
+        for (int i = 0; i < 500; i++) {
+            x.pull(0);
+        }
+        Due.is("count(4)", x.count(4), 500);
+        Due.is("count(8)", x.count(8), 40);
+        Due.is("court(1)", x.court(1), 500);
+        Due.is("string(0, 4)", x.string(0, 4), 500);
+        Due.is("puppet(0, 1)", x.puppet(0, 1), 0);
+    }
+
     @Says("7 bytes on the tape, 8 things that can be undone, 9 TOLD ones, 10 SLOTS that hold something,")
     static void p37_count_whatIsKept() {
         PuppetCourt x = Due.court(CLOTH);

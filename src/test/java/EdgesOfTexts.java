@@ -741,6 +741,9 @@ final class EdgesOfTexts {
         // 3 of the child, 396 of the law: 5, and 196 times one more or less
         PuppetCourt x = Due.court("child 1;votes=5" + "+1-1".repeat(98) + ";");
         Due.is("the votes", x.jury(1, true), 2);
+        x = Due.court("verdict=2" + "+3-3".repeat(99) + ";");
+        x.pass();
+        Due.is("the verdict", x.court(5), 2);
         x = Due.court("child 1;" + "votes=7;".repeat(98) + "votes=3;");
         Due.is("the votes of the last law", x.jury(1, false) * 100 + x.jury(1, true), 310);
     }

@@ -140,7 +140,6 @@ public final class FaultsTest {
         fault("order = ((((((1))))))+(((((((1", 2, 28);
         fault("order = if 1 < (((((((", 2, 21);
         tokens();
-        lastTokens();
     }
 
     /** "child 1;" is three tokens; laws of sums fill up to 400 just. */
@@ -161,34 +160,6 @@ public final class FaultsTest {
         fault(law + "+", 1, law.length() + 1);
         fault(law + "+;", 1, law.length() + 1);
         fault(law + "+12345;", 1, law.length() + 1);
-    }
-
-    /** So many tokens of good tells, at least eight. */
-    private static String filling(int tokens) {
-        StringBuilder text = new StringBuilder("puppet a 1 1;order=1");
-        int rest = tokens - 9;
-        if (rest % 2 == 1) {
-            text.insert(0, "child 1;");
-            rest -= 3;
-        }
-        return text.append("+1".repeat(rest / 2)).append(';').toString();
-    }
-
-    /** The 401st token at each place of each sort of tell, and the 400th as the last one. */
-    private static void lastTokens() {
-        String[] tells = {"puppet b 1 1 ;", "string b a 0 - 1 1 ;", "string b a 0 1 1 ;", "child 1 ;", "storm 1 ;", "seed 1 ;",
-            "order = if 1 < 2 then 3 + 4 else 5 * ( 6 ) ;", "verdict = pulls ;", "votes = seat / 2 ;"};
-        for (String tell : tells) {
-            String[] parts = tell.split(" ");
-            int at = 0;
-            for (int j = 0; j < parts.length; j++) {
-                String before = filling(400 - j);
-                fault(before + tell, 2, before.length() + at);
-                fault(before + tell.substring(0, at) + "?", 1, before.length() + at);
-                at += parts[j].length() + 1;
-            }
-            good(filling(400 - parts.length) + tell);
-        }
     }
 
     private static void meaning() {

@@ -246,16 +246,6 @@ public final class PromisesTest {
         Due.is("pulls of all then", x.count(4), 3);
     }
 
-    /** LOT by hand, with longs. */
-    private static int lot(int n, int seed, int which) {
-        long h = seed;
-        for (long it : new long[] {87, which}) {
-            h = ((h ^ it) * 1103515245L + 12345L) & 0xffffffffL;
-            h ^= h >> 15;
-        }
-        return (int) ((h >> 1) % n);
-    }
-
     private static void storms() {
         for (int seed = 0; seed < 60; seed++) {
             int level = 10 * (seed % 11);
@@ -266,9 +256,9 @@ public final class PromisesTest {
             int stormy = 0;
             for (int pull = 0; pull < 6; pull++) {
                 int drawn = 0;
-                if (lot(100, seed, 4 * pull) < level) {
+                if (Lot.of(100, seed, 4 * pull) < level) {
                     stormy++;
-                    drawn = lot(3, seed, 4 * pull + 1);
+                    drawn = Lot.of(3, seed, 4 * pull + 1);
                 }
                 int to = drawn == 0 ? px[0] : drawn == 1 ? px[0] - 3 : px[1] + 3;
                 if (to >= 0 && to <= 9) {
@@ -622,7 +612,7 @@ public final class PromisesTest {
             int[] ended = new int[3];
             PuppetCourt x = Due.court(text + seed + ";");
             for (int i = 0; i < 20; i++) {
-                int which = lot(100, seed + i, 0) < 60 ? lot(3, seed + i, 1) : 0;
+                int which = Lot.of(100, seed + i, 0) < 60 ? Lot.of(3, seed + i, 1) : 0;
                 // a nods; b cannot go, so it stays 1 apart, and 2 it is; c makes it 5, and 6 leaves 0
                 int due = which == 0 ? 1 : which == 1 ? 2 : 0;
                 ended[due]++;
