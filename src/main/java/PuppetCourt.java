@@ -545,7 +545,7 @@ public final class PuppetCourt {
         }
     }
 
-    /** The tokens of a text, one at a time. */
+    /** A text cut into tokens, which are then shown one at a time. */
     private static final class Tokens {
         /** The words in quotes; a word's kind is its place here. */
         private static final String WORDS =
@@ -575,15 +575,21 @@ public final class PuppetCourt {
         static final int BAD = 23;
         /** The kind of a sign is its own byte, which is above all of these. */
         private static final String SIGNS = ";=+-*/<()";
+        /** One more than a text may have: that one is a fault, and none behind it is looked at. */
+        private static final int MOST_CUT = MOST_TOKENS + 1;
 
         private final long[] words = new long[WORD_COUNT];
+        private final int[] kinds = new int[MOST_CUT];
+        private final int[] places = new int[MOST_CUT];
+        private final long[] values = new long[MOST_CUT];
         private byte[] text = new byte[0];
         private int length = 0;
         private int next = 0;
+        private int shown = NONE;
         int kind = END;
         int place = 0;
-        int number = 0;
-        long name = 0;
+        /** An int's number, or a name's letters. */
+        long value = 0;
 
         Tokens() {
             int word = 0;
@@ -600,24 +606,43 @@ public final class PuppetCourt {
             }
         }
 
-        void start(byte[] bytes, int count) {
+        /** Cuts a text and shows its first token, which is its end if it has none. */
+        void cut(byte[] bytes, int count) {
             text = bytes;
             length = Math.min(count, bytes.length);
             next = 0;
-            advance();
+            for (int i = 0; i < MOST_CUT; i++) {
+                cutOne();
+                kinds[i] = kind;
+                places[i] = place;
+                values[i] = value;
+            }
+            shown = NONE;
+            showNext();
         }
 
-        void advance() {
+        void showNext() {
+            int following = shown + 1;
+            if (following >= 0 && following < MOST_CUT) {
+                shown = following;
+                kind = kinds[following];
+                place = places[following];
+                value = values[following];
+            }
+        }
+
+        private void cutOne() {
             while (next < length && isBlank(text[next])) {
                 next++;
             }
             place = next;
+            value = 0;
             if (next >= length) {
                 kind = END;
             } else if (text[next] >= 'a' && text[next] <= 'z') {
-                letters();
+                cutLetters();
             } else if (text[next] >= '0' && text[next] <= '9') {
-                digits();
+                cutDigits();
             } else {
                 int sign = text[next] & 255;
                 kind = SIGNS.indexOf((char) sign) >= 0 ? sign : BAD;
@@ -629,24 +654,22 @@ public final class PuppetCourt {
             return c == 9 || c == 10 || c == 13 || c == 32;
         }
 
-        private void letters() {
-            name = 0;
+        private void cutLetters() {
             while (next < length && text[next] >= 'a' && text[next] <= 'z') {
-                name = (name << LETTER_BITS) + (text[next] - BEFORE_A);
+                value = (value << LETTER_BITS) + (text[next] - BEFORE_A);
                 next++;
             }
             kind = next - place > MOST_LETTERS ? BAD : NAME;
             for (int i = 0; i < words.length && kind == NAME; i++) {
-                if (words[i] == name) {
+                if (words[i] == value) {
                     kind = i;
                 }
             }
         }
 
-        private void digits() {
-            number = 0;
+        private void cutDigits() {
             while (next < length && text[next] >= '0' && text[next] <= '9') {
-                number = 10 * number + (text[next] - '0');
+                value = 10 * value + (text[next] - '0');
                 next++;
             }
             kind = next - place > MOST_DIGITS ? BAD : INT;
@@ -937,7 +960,7 @@ public final class PuppetCourt {
             taken = 0;
             fault = 0;
             faultPlace = NONE;
-            tokens.start(text, length);
+            tokens.cut(text, length);
             boolean goesOn = true;
             for (int tells = 0; tells <= MOST_TOKENS && goesOn && tokens.kind != Tokens.END; tells++) {
                 switch (tokens.kind) {
@@ -993,7 +1016,7 @@ public final class PuppetCourt {
                 return fail(ROOM);
             }
             taken++;
-            tokens.advance();
+            tokens.showNext();
             return true;
         }
 
@@ -1006,7 +1029,7 @@ public final class PuppetCourt {
             if (tokens.kind != Tokens.INT) {
                 return fail(SYNTAX);
             }
-            number = tokens.number;
+            number = (int) tokens.value;
             if (number > most) {
                 note(WRONG);
             }
@@ -1022,7 +1045,7 @@ public final class PuppetCourt {
                 note(TWICE);
             }
             if (named < names.length) {
-                names[named] = tokens.name;
+                names[named] = tokens.value;
                 bearers[named] = puppet;
                 named++;
             }
@@ -1044,7 +1067,7 @@ public final class PuppetCourt {
 
         private int indexOfName() {
             for (int i = 0; i < named && i < names.length; i++) {
-                if (names[i] == tokens.name) {
+                if (names[i] == tokens.value) {
                     return i;
                 }
             }
@@ -1176,7 +1199,7 @@ public final class PuppetCourt {
 
         private boolean unit(int brackets) {
             if (tokens.kind == Tokens.INT) {
-                draft.book.addStep(Book.NUMBER, tokens.number);
+                draft.book.addStep(Book.NUMBER, (int) tokens.value);
                 return step();
             }
             if (tokens.kind >= Tokens.FIRST_VAR && tokens.kind <= Tokens.LAST_VAR) {
@@ -1189,7 +1212,11 @@ public final class PuppetCourt {
             if (brackets >= MOST_BRACKETS) {
                 return fail(ROOM);
             }
-            return step() && sum(brackets + 1) && take(')');
+            if (!step() || !sum(brackets + 1)) {
+                return false;
+            }
+            // Not by take(): that would be a call deeper than LANGUAGE.md allows.
+            return tokens.kind == ')' ? step() : fail(SYNTAX);
         }
     }
 
